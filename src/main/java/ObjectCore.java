@@ -429,8 +429,6 @@ public final class ObjectCore {
         objectKind[made] = kind;
         prototype[made] = itsPrototype;
         extensible[made] = true;
-        functionCode[made] = 0;
-        functionScope[made] = NONE;
         propertyCount[made] = 0;
         for (int key = 0; key < KEYS; key++) {
             propertyKind[made * KEYS + key] = ABSENT;

@@ -25,15 +25,12 @@ public final class CallsTest {
         ObjectCore x = new ObjectCore();
         int target = Asm.function(x, 0, false, "VAR 0 0", "VAR 0 1", "VAR 0 2", "VAR 0 3", "ARRAY 4",
                 "DUP", "THIS", "PUT 20", "DROP", "GIVE");
+        int calling = x.make(2, 1);
         for (int count = 0; count <= 4; count++) {
-            int caller = Asm.function(x, 1, false, "NUMBER 90", "VAR 0 0", "NUMBER 80", "NUMBER 1", "NUMBER 2",
-                    "NUMBER 3", "NUMBER 4", count == 4 ? "CALL 4" : "DROP", "GIVE");
-            if (count < 4) {
-                Asm.write(x, 1, false, "NUMBER 90", "VAR 0 0", "NUMBER 80", count > 0 ? "NUMBER 1" : "JUMP 4",
-                        count > 1 ? "NUMBER 2" : "JUMP 5", count > 2 ? "NUMBER 3" : "JUMP 6",
-                        "CALL " + count, "GIVE");
-            }
-            Due.is("call " + count, x.call(caller, 0, Due.object(target)), R);
+            // It goes on where just so many ARGUMENTS are pushed.
+            Asm.write(x, 1, false, "NUMBER 90", "VAR 0 0", "NUMBER 80", "JUMP " + (8 - count), "NUMBER " + (count - 3),
+                    "NUMBER " + (count - 2), "NUMBER " + (count - 1), "NUMBER " + count, "CALL " + count, "GIVE");
+            Due.is("call " + count, x.call(calling, 0, Due.object(target)), R);
             int array = (int) (x.result() - Due.object(0));
             for (int i = 0; i < 4; i++) {
                 Due.is("argument", x.own(array, i, 2), i < count ? i + 1 : Due.UNDEFINED);
@@ -99,6 +96,11 @@ public final class CallsTest {
             Due.ends("NEW gives " + line, x, x.call(caller, 0, Due.object(maker)), R, Due.object(object ? 6 : 5));
         }
         ObjectCore x = new ObjectCore();
+        x.add(7, 5, 1, 0);
+        x.add(7, 19, 0, 0);
+        int outer = Asm.function(x, 6, false, "FUNCTION 7", "NEW 0", "GIVE");
+        Due.ends("NEW gives OBJECT 0", x, x.call(outer, 0, Due.object(0)), R, Due.object(0));
+        x = new ObjectCore();
         int maker = Asm.function(x, 0, false, "NUMBER 4", "THROW");
         int caller = Asm.function(x, 1, false, "VAR 0 0", "NEW 0", "GIVE");
         Due.ends("NEW throws", x, x.call(caller, 0, Due.object(maker)), T, 4);
@@ -128,6 +130,7 @@ public final class CallsTest {
         Asm.due(T, 4, "TRY 3", "NUMBER 4", "THROW", "THROW");
         Asm.due(T, 4, "TRY 4", "DONE", "NUMBER 4", "THROW", "NUMBER 1", "GIVE");
         Asm.due(R, 1, "DONE", "NUMBER 1", "GIVE");
+        Asm.due(R, 4, "DONE", "DONE", "TRY 5", "NUMBER 4", "THROW", "GIVE");
         Asm.due(R, 5, "TRY 6", "TRY 4", "NUMBER 4", "THROW", "NUMBER 5", "THROW", "GIVE");
         Asm.due(R, 4, "TRY 7", "TRY 4", "DONE", "NUMBER 4", "THROW", "NUMBER 5", "GIVE", "GIVE");
         Asm.due(R, Due.UNDEFINED, "TRY 24", "NUMBER 4", "THROW");
@@ -242,15 +245,19 @@ public final class CallsTest {
         Due.is("one ACTIVATION stays", x.state(1), 1);
         Due.is("what it made is there", x.state(0), 6);
         Due.ends("again", x, x.call(inner, 0, 0), Due.LONG, Due.UNDEFINED);
-        Due.is("none stays", x.state(1), 1);
+        Due.is("no other stays", x.state(1), 1);
         Due.is("one FRAME", x.state(3), 1);
+        x = new ObjectCore();
+        int deep = Asm.function(x, 0, false, "TRY 7", "THIS", "THIS", "CALL 0", "DROP", "JUMP 1", "JUMP 6", "JUMP 6");
+        Due.ends("six FRAMES end", x, x.call(deep, Due.object(deep), 0), Due.LONG, Due.UNDEFINED);
+        Due.is("six", x.state(3), 6);
+        Due.is("no ACTIVATION", x.state(1), 0);
     }
 
-    /** A loop of four, 74 times, and what comes behind it. */
+    /** A loop of five instructions, 59 times, and what comes behind it. */
     private static void longAtTheEdge() {
-        String[] loop = {"NUMBER 74", "DUP", "IF 4", "GIVE", "NUMBER 1", "SUB", "JUMP 1"};
         ObjectCore x = new ObjectCore();
-        int counting = Asm.function(x, 0, false, loop);
+        int counting = Asm.function(x, 0, false, "NUMBER 74", "DUP", "IF 4", "GIVE", "NUMBER 1", "SUB", "JUMP 1");
         Due.ends("more than 300", x, x.call(counting, 0, 0), Due.LONG, Due.UNDEFINED);
         Asm.write(x, 0, false, "NUMBER 59", "DUP", "IF 4", "GIVE", "NUMBER 1", "SUB", "JUMP 1");
         // 1 + 5 * 59 + 3 = 299

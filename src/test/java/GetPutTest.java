@@ -12,6 +12,7 @@ public final class GetPutTest {
         refusedLeavesAll();
         resultTells();
         longOnes();
+        firstObjectAndKey();
         Due.end("GetPutTest");
     }
 
@@ -173,5 +174,28 @@ public final class GetPutTest {
         Due.ends("put", x, x.put(0, 1, 5, false), Due.LONG, Due.UNDEFINED);
         Due.is("begun by put", x.state(2), 300);
         Due.is("no ACTIVATION", x.state(1), 0);
+    }
+
+    /** OBJECT 0 and KEY 0 are like all others. */
+    private static void firstObjectAndKey() {
+        ObjectCore x = new ObjectCore();
+        Due.ends("put", x, x.put(0, 0, 5, true), Due.RETURNED, 5);
+        Due.ends("get", x, x.get(0, 0), Due.RETURNED, 5);
+        Due.ends("get from 1", x, x.get(1, 0), Due.RETURNED, 5);
+        Due.is("each", x.each(0, 0), 0);
+        Due.is("seal", x.seal(0, 1), true);
+        Due.is("sealed", x.own(0, 0, 1), 3);
+        Due.ends("put again", x, x.put(0, 0, 6, true), Due.RETURNED, 6);
+        x.seal(0, 2);
+        Due.ends("put no more", x, x.put(0, 0, 7, true), Due.THROWN, Due.TYPE);
+        Due.ends("put no more from 1", x, x.put(1, 0, 7, true), Due.THROWN, Due.TYPE);
+        x = new ObjectCore();
+        int function = Asm.function(x, 0, false, "NUMBER 6", "GIVE");
+        Due.is("accessor", x.accessor(0, 0, function, function, GETTER | SETTER), 1);
+        Due.ends("getter", x, x.get(0, 0), Due.RETURNED, 6);
+        Due.ends("setter", x, x.put(0, 0, 9, true), Due.RETURNED, 9);
+        Due.is("setter was called", x.state(2), 2);
+        Due.is("OBJECT 0 is no FUNCTION", x.accessor(0, 1, 0, function, GETTER), Due.REFUSED);
+        Due.is("nor is one behind the last", x.accessor(0, 1, x.state(0), function, GETTER), Due.REFUSED);
     }
 }

@@ -174,6 +174,9 @@ public final class InstructionsTest {
     }
 
     private static void deletes() {
+        Asm.due(R, Due.FALSE, "THIS", "SEAL 0", "DROP", "THIS", "NUMBER 1", "PUT 0", "DROP", "THIS", "HAS 0", "GIVE");
+        Asm.due(R, Due.TRUE, "THIS", "NUMBER 1", "PUT 0", "DROP", "THIS", "HAS 0", "GIVE");
+        Asm.due(R, Due.FALSE, "THIS", "NUMBER 1", "PUT 0", "DROP", "THIS", "SEAL 1", "DELETE 0", "GIVE");
         Asm.due(R, Due.TRUE, "OBJECT", "DELETE 3", "GIVE");
         Asm.due(R, Due.FALSE, "OBJECT", "DUP", "NUMBER 1", "PUT 3", "DROP", "DUP", "DELETE 3", "DROP", "HAS 3", "GIVE");
         Asm.due(R, Due.FALSE, "ARRAY 0", "DELETE 16", "GIVE");
@@ -291,6 +294,7 @@ public final class InstructionsTest {
         Asm.due(R, Due.FALSE, "OBJECT", "OBJECT", "SAME", "GIVE");
         Asm.due(R, Due.FALSE, "SPECIAL 0", "SPECIAL 1", "SAME", "GIVE");
         Asm.due(R, 0, "OBJECT", "OF", "GIVE");
+        Asm.due(R, 0, "THIS", "OF", "GIVE");
         Asm.due(R, 1, "ARRAY 0", "OF", "GIVE");
         Asm.due(R, 2, "FUNCTION 0", "OF", "GIVE");
         Asm.due(R, 3, "NUMBER -7", "OF", "GIVE");
