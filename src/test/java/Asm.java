@@ -35,9 +35,32 @@ final class Asm {
 
     /** Calls a FUNCTION with these lines on a new object; THIS is OBJECT 0, the ARGUMENT OBJECT 1. */
     static void due(int end, long result, String... lines) {
+        due(false, end, result, lines);
+    }
+
+    static void dueStrict(int end, long result, String... lines) {
+        due(true, end, result, lines);
+    }
+
+    private static void due(boolean strict, int end, long result, String... lines) {
         ObjectCore x = new ObjectCore();
-        int function = function(x, 0, false, lines);
+        int function = function(x, 0, strict, lines);
         int got = x.call(function, Due.object(0), Due.object(1));
-        Due.ends(String.join("; ", lines), x, got, end, result);
+        Due.ends((strict ? "STRICT " : "") + String.join("; ", lines), x, got, end, result);
+    }
+
+    /** Lines that push the NUMBERS 0, 1, .. up to this height, and then these lines. */
+    static String[] onto(int height, String... lines) {
+        String[] pushing = new String[height];
+        for (int i = 0; i < height; i++) {
+            pushing[i] = "NUMBER " + i;
+        }
+        return join(pushing, lines);
+    }
+
+    static String[] join(String[] first, String... second) {
+        String[] all = Arrays.copyOf(first, first.length + second.length);
+        System.arraycopy(second, 0, all, first.length, second.length);
+        return all;
     }
 }

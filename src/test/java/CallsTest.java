@@ -153,18 +153,12 @@ public final class CallsTest {
         String[] nine = new String[9];
         java.util.Arrays.fill(nine, "NUMBER 6");
         // At 9 there is room for what is thrown; at 10 there is none, and RANGE goes to the next one.
-        Asm.due(R, Due.RANGE, join(nine, "TRY 12", "NUMBER 8", "NUMBER 9", "GIVE"));
-        Asm.due(T, Due.RANGE, join(nine, "NUMBER 8", "TRY 12", "NUMBER 9", "GIVE"));
-        Asm.due(R, Due.RANGE, join(nine, "TRY 14", "NUMBER 8", "TRY 13", "NUMBER 9", "NUMBER 7", "GIVE"));
-        Asm.due(R, 6, join(nine, "TRY 13", "NUMBER 8", "TRY 13", "NUMBER 9", "DROP", "GIVE"));
-        Asm.due(R, Due.TYPE, join(nine, "SPECIAL 3", "TRY 12", "ADD", "GIVE"));
-        Asm.due(T, Due.RANGE, join(nine, "NUMBER 8", "TRY 13", "TRY 13", "TRY 13", "TRY 13", "GIVE"));
-    }
-
-    private static String[] join(String[] first, String... second) {
-        String[] all = java.util.Arrays.copyOf(first, first.length + second.length);
-        System.arraycopy(second, 0, all, first.length, second.length);
-        return all;
+        Asm.due(R, Due.RANGE, Asm.join(nine, "TRY 12", "NUMBER 8", "NUMBER 9", "GIVE"));
+        Asm.due(T, Due.RANGE, Asm.join(nine, "NUMBER 8", "TRY 12", "NUMBER 9", "GIVE"));
+        Asm.due(R, Due.RANGE, Asm.join(nine, "TRY 14", "NUMBER 8", "TRY 13", "NUMBER 9", "NUMBER 7", "GIVE"));
+        Asm.due(R, 6, Asm.join(nine, "TRY 13", "NUMBER 8", "TRY 13", "NUMBER 9", "DROP", "GIVE"));
+        Asm.due(R, Due.TYPE, Asm.join(nine, "SPECIAL 3", "TRY 12", "ADD", "GIVE"));
+        Asm.due(T, Due.RANGE, Asm.join(nine, "NUMBER 8", "TRY 13", "TRY 13", "TRY 13", "TRY 13", "GIVE"));
     }
 
     private static void thrownThroughFrames() {

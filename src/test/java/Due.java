@@ -15,6 +15,9 @@ final class Due {
 
     private static int asked = 0;
     private static int wrong = 0;
+    private static int sentences = 0;
+    private static String sentence = "";
+    private static int askedBefore = 0;
 
     private Due() {
     }
@@ -23,16 +26,40 @@ final class Due {
         return (1L << 34) + number;
     }
 
+    /** The answers from here on are about these words of the document. */
+    static void says(String words) {
+        endSentence();
+        sentences++;
+        sentence = "\"" + words + "\" ";
+        askedBefore = asked;
+    }
+
+    /** A sentence that nothing was asked about is not tested. */
+    private static void endSentence() {
+        if (!sentence.isEmpty() && asked == askedBefore) {
+            wrong++;
+            System.out.println(sentence + "has no test");
+        }
+    }
+
     static void is(String what, long got, long want) {
         asked++;
         if (got != want) {
             wrong++;
-            System.out.println(what + ": answered " + got + ", due is " + want);
+            System.out.println(sentence + what + ": answered " + got + ", due is " + want);
         }
     }
 
     static void is(String what, boolean got, boolean want) {
         is(what, got ? 1 : 0, want ? 1 : 0);
+    }
+
+    static void same(String what, String got, String want) {
+        asked++;
+        if (!got.equals(want)) {
+            wrong++;
+            System.out.println(sentence + what + ": is " + got + ", due is " + want);
+        }
     }
 
     /** How a call, get or put has to end, and with what. */
@@ -42,7 +69,9 @@ final class Due {
     }
 
     static void end(String test) {
-        System.out.println(test + ": " + asked + " answers, " + wrong + " not as due");
+        endSentence();
+        String about = sentences == 0 ? "" : " about " + sentences + " sentences";
+        System.out.println(test + ": " + asked + " answers" + about + ", " + wrong + " not as due");
         if (wrong != 0 || asked == 0) {
             System.exit(1);
         }

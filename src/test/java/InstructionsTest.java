@@ -46,32 +46,22 @@ public final class InstructionsTest {
         Asm.due(T, 6, "NUMBER 6", "THROW");
     }
 
-    /** Lines that push so many NUMBERS, and then these. */
-    private static String[] onto(int height, String... lines) {
-        String[] all = new String[height + lines.length];
-        for (int i = 0; i < height; i++) {
-            all[i] = "NUMBER " + i;
-        }
-        System.arraycopy(lines, 0, all, height, lines.length);
-        return all;
-    }
-
     private static void stackLimits() {
-        Asm.due(R, 9, onto(10, "GIVE"));
-        Asm.due(T, Due.RANGE, onto(11, "GIVE"));
-        Asm.due(T, Due.RANGE, onto(10, "DUP"));
-        Asm.due(R, 8, onto(9, "DUP", "GIVE"));
-        Asm.due(R, 8, onto(10, "SWAP", "GIVE"));
-        Asm.due(T, Due.RANGE, onto(10, "THIS"));
-        Asm.due(T, Due.RANGE, onto(10, "VAR 0 0"));
-        Asm.due(T, Due.RANGE, onto(10, "VAR 3 0"));
-        Asm.due(T, Due.RANGE, onto(10, "SPECIAL 0"));
-        Asm.due(R, 17, onto(10, "ADD", "GIVE"));
-        Asm.due(R, 3, onto(10, "OF", "GIVE"));
-        Asm.due(R, 9, onto(10, "SEAL 0", "GIVE"));
+        Asm.due(R, 9, Asm.onto(10, "GIVE"));
+        Asm.due(T, Due.RANGE, Asm.onto(11, "GIVE"));
+        Asm.due(T, Due.RANGE, Asm.onto(10, "DUP"));
+        Asm.due(R, 8, Asm.onto(9, "DUP", "GIVE"));
+        Asm.due(R, 8, Asm.onto(10, "SWAP", "GIVE"));
+        Asm.due(T, Due.RANGE, Asm.onto(10, "THIS"));
+        Asm.due(T, Due.RANGE, Asm.onto(10, "VAR 0 0"));
+        Asm.due(T, Due.RANGE, Asm.onto(10, "VAR 3 0"));
+        Asm.due(T, Due.RANGE, Asm.onto(10, "SPECIAL 0"));
+        Asm.due(R, 17, Asm.onto(10, "ADD", "GIVE"));
+        Asm.due(R, 3, Asm.onto(10, "OF", "GIVE"));
+        Asm.due(R, 9, Asm.onto(10, "SEAL 0", "GIVE"));
         // DUP leaves the first one: a HANDLER at its height finds no room for what was thrown.
-        Asm.due(R, 8, onto(9, "TRY 12", "NUMBER 70", "DUP", "DROP", "GIVE"));
-        Asm.due(T, Due.RANGE, onto(10, "TRY 13", "DUP", "NUMBER 1", "GIVE"));
+        Asm.due(R, 8, Asm.onto(9, "TRY 12", "NUMBER 70", "DUP", "DROP", "GIVE"));
+        Asm.due(T, Due.RANGE, Asm.onto(10, "TRY 13", "DUP", "NUMBER 1", "GIVE"));
     }
 
     private static void variables() {
@@ -124,21 +114,15 @@ public final class InstructionsTest {
         }
         Asm.due(R, Due.UNDEFINED, "NUMBER 0", "GET 3", "GIVE");
         Asm.due(R, 1, "NUMBER 0", "NUMBER 1", "PUT 3", "GIVE");
-        strict(T, Due.TYPE, "NUMBER 0", "NUMBER 1", "PUT 3", "GIVE");
-        strict(T, Due.TYPE, "SPECIAL 3", "NUMBER 1", "PUT 3", "GIVE");
-        strict(R, Due.UNDEFINED, "SPECIAL 3", "GET 3", "GIVE");
+        Asm.dueStrict(T, Due.TYPE, "NUMBER 0", "NUMBER 1", "PUT 3", "GIVE");
+        Asm.dueStrict(T, Due.TYPE, "SPECIAL 3", "NUMBER 1", "PUT 3", "GIVE");
+        Asm.dueStrict(R, Due.UNDEFINED, "SPECIAL 3", "GET 3", "GIVE");
         Asm.due(R, 1, "OBJECT", "SEAL 0", "NUMBER 1", "PUT 3", "GIVE");
-        strict(T, Due.TYPE, "OBJECT", "SEAL 0", "NUMBER 1", "PUT 3", "GIVE");
+        Asm.dueStrict(T, Due.TYPE, "OBJECT", "SEAL 0", "NUMBER 1", "PUT 3", "GIVE");
         Asm.due(T, Due.RANGE, "ARRAY 0", "NUMBER 17", "PUT 16");
         Asm.due(T, Due.RANGE, "ARRAY 0", "SPECIAL 0", "PUT 16");
-        strict(T, Due.TYPE, "ARRAY 0", "SEAL 2", "SPECIAL 0", "PUT 16");
+        Asm.dueStrict(T, Due.TYPE, "ARRAY 0", "SEAL 2", "SPECIAL 0", "PUT 16");
         Asm.due(R, Due.UNDEFINED, "ARRAY 0", "SEAL 2", "SPECIAL 0", "PUT 16", "GIVE");
-    }
-
-    private static void strict(int end, long result, String... lines) {
-        ObjectCore x = new ObjectCore();
-        int function = Asm.function(x, 0, true, lines);
-        Due.ends("STRICT " + String.join("; ", lines), x, x.call(function, BASE, ARGUMENT), end, result);
     }
 
     private static void getAtAndPutAt() {
@@ -157,7 +141,7 @@ public final class InstructionsTest {
         // The BASE is popped where the KEY is one.
         Asm.due(R, 44, "NUMBER 44", "SPECIAL 0", "NUMBER 1", "TRY 6", "GETAT", "GIVE", "DROP", "GIVE");
         Asm.due(R, 44, "NUMBER 44", "SPECIAL 0", "TRY 5", "GET 2", "GIVE", "DROP", "GIVE");
-        strict(T, Due.TYPE, "NUMBER 1", "NUMBER 2", "NUMBER 3", "PUTAT");
+        Asm.dueStrict(T, Due.TYPE, "NUMBER 1", "NUMBER 2", "NUMBER 3", "PUTAT");
         Asm.due(R, 3, "NUMBER 1", "NUMBER 2", "NUMBER 3", "PUTAT", "GIVE");
     }
 
@@ -181,12 +165,12 @@ public final class InstructionsTest {
         Asm.due(R, Due.FALSE, "OBJECT", "DUP", "NUMBER 1", "PUT 3", "DROP", "DUP", "DELETE 3", "DROP", "HAS 3", "GIVE");
         Asm.due(R, Due.FALSE, "ARRAY 0", "DELETE 16", "GIVE");
         Asm.due(R, Due.TRUE, "ARRAY 0", "DUP", "DELETE 16", "DROP", "HAS 16", "GIVE");
-        strict(T, Due.TYPE, "ARRAY 0", "DELETE 16", "GIVE");
-        strict(R, Due.TRUE, "ARRAY 0", "DELETE 15", "GIVE");
+        Asm.dueStrict(T, Due.TYPE, "ARRAY 0", "DELETE 16", "GIVE");
+        Asm.dueStrict(R, Due.TRUE, "ARRAY 0", "DELETE 15", "GIVE");
         Asm.due(T, Due.TYPE, "SPECIAL 0", "DELETE 3");
         Asm.due(T, Due.TYPE, "SPECIAL 1", "DELETE 3");
         Asm.due(R, Due.TRUE, "SPECIAL 2", "DELETE 3", "GIVE");
-        strict(R, Due.TRUE, "NUMBER 2", "DELETE 3", "GIVE");
+        Asm.dueStrict(R, Due.TRUE, "NUMBER 2", "DELETE 3", "GIVE");
     }
 
     private static void has() {
@@ -259,7 +243,7 @@ public final class InstructionsTest {
         String[] making = {"OBJECT", "ARRAY 0", "FUNCTION 0"};
         for (int kind = 0; kind < 3; kind++) {
             ObjectCore x = new ObjectCore();
-            int function = Asm.function(x, 0, false, onto(10, making[kind]));
+            int function = Asm.function(x, 0, false, Asm.onto(10, making[kind]));
             Due.ends(making[kind] + " onto 10", x, x.call(function, 0, 0), T, Due.RANGE);
             Due.is(making[kind] + " is there", x.state(0), 5);
             Due.is(making[kind] + " kind", x.of(4, 0), kind);
