@@ -24,6 +24,9 @@ public final class BoundsOfAccessTest {
         putNotExtensible();
         putBelowDataNotWritable();
         putAllOn();
+        putToTheFirstOfBoth();
+        putPushesTheValue();
+        whatFails();
         strictOrNot();
         deleteOfUndefinedOrNull();
         deleteOfNoObject();
@@ -165,7 +168,10 @@ public final class BoundsOfAccessTest {
         int setter = Asm.function(x, 0, false, "THIS", "VAR 0 0", "VAR 0 1", "VAR 0 2", "VAR 0 3", "ARRAY 4", "PUT 20",
                 "NUMBER 99", "GIVE");
         x.accessor(0, 5, -1, setter, SETTER);
-        x.call(setter, 1, 2);
+        // What an earlier CALL had as ARGUMENTS is not there.
+        int four = Asm.function(x, 1, false, "FUNCTION 7", "THIS", "NUMBER 1", "NUMBER 2", "NUMBER 3",
+                "NUMBER 4", "CALL 4");
+        x.call(four, 0, 0);
         Due.ends("the VALUE, not what it gives", x, x.put(2, 5, 55, true), R, 55);
         int array = x.state(0) - 1;
         Due.is("THIS is the BASE", x.own(2, 20, 2), Due.object(array));
@@ -177,7 +183,7 @@ public final class BoundsOfAccessTest {
         x.seal(2, 0);
         Due.ends("a BASE that is not EXTENSIBLE", x, x.put(2, 5, 56, true), R, 56);
         Due.is("is called then, too", x.state(2), 9);
-        int thrower = Asm.function(x, 1, false, "VAR 0 0", "THROW");
+        int thrower = Asm.function(x, 2, false, "VAR 0 0", "THROW");
         x.accessor(1, 5, -1, thrower, SETTER);
         Due.ends("what it throws", x, x.put(1, 5, 57, false), T, 57);
     }
@@ -256,6 +262,60 @@ public final class BoundsOfAccessTest {
         Due.same("KEY 31", Picture.property(x, 2, 31), Picture.of(1, 7, 57, U, 2));
         Due.same("KEY 0", Picture.property(x, 2, 0), Picture.of(1, 7, 58, U, 3));
         Due.same("the other is as it was", Picture.property(x, 0, 6), Picture.of(1, W, 9, U, 0));
+    }
+
+    private static void putToTheFirstOfBoth() {
+        Due.says("PROPERTIES of an OBJECT have different KEYS 0..31");
+        ObjectCore x = new ObjectCore();
+        x.define(0, 0, 9, SAYS_VALUE | SAYS_W | W);
+        Due.ends("own DATA", x, x.put(0, 0, 55, true), R, 55);
+        Due.same("own DATA", Picture.property(x, 0, 0), Picture.of(1, W, 55, U, 0));
+        x.seal(0, 0);
+        Due.ends("not EXTENSIBLE, own DATA", x, x.put(0, 0, 56, true), R, 56);
+        x.define(0, 0, 56, SAYS_W);
+        fails("not WRITABLE", x, 0, 0);
+        fails("of another, not WRITABLE", x, 1, 0);
+        ObjectCore y = new ObjectCore();
+        int setter = Asm.function(y, 0, false, "THIS", "VAR 0 0", "PUT 1");
+        y.accessor(0, 0, -1, setter, SETTER);
+        Due.ends("a SETTER", y, y.put(2, 0, 57, true), R, 57);
+        Due.is("it was called", y.own(2, 1, 2), 57);
+    }
+
+    private static void putPushesTheValue() {
+        Due.says("the VALUE is pushed in the end (unless something is thrown)");
+        ObjectCore x = new ObjectCore();
+        int setter = Asm.function(x, 0, false, "NUMBER 99", "GIVE");
+        int thrower = Asm.function(x, 1, false, "NUMBER 98", "THROW");
+        x.accessor(0, 5, -1, setter, SETTER);
+        x.accessor(0, 6, -1, thrower, SETTER);
+        String[] keys = {"4", "5", "6"};
+        long[] due = {7, 7, 98};
+        for (int i = 0; i < keys.length; i++) {
+            int end = i == 2 ? T : R;
+            int put = Asm.function(x, 2, false, "THIS", "NUMBER 7", "PUT " + keys[i], "GIVE");
+            Due.ends("PUT " + keys[i], x, x.call(put, Due.object(0), 0), end, due[i]);
+            int putAt = Asm.function(x, 3, false, "THIS", "NUMBER " + keys[i], "NUMBER 7", "PUTAT", "GIVE");
+            Due.ends("PUTAT " + keys[i], x, x.call(putAt, Due.object(0), 0), end, due[i]);
+        }
+        // Where it is thrown only what was thrown is pushed, above what was below the BASE.
+        int caught = Asm.function(x, 4, false, "NUMBER 9", "THIS", "NUMBER 7", "TRY 6", "PUT 6", "GIVE", "DROP",
+                "GIVE");
+        Due.ends("caught", x, x.call(caught, Due.object(0), 0), R, 9);
+    }
+
+    private static void whatFails() {
+        Due.says("What FAILS throws TYPE if it is STRICT, else nothing happens");
+        // Behind what FAILS and is not STRICT it goes on.
+        Asm.due(R, 3, "OBJECT", "SEAL 2", "NUMBER 1", "PUT 5", "NUMBER 2", "ADD", "GIVE");
+        Asm.dueStrict(T, Due.TYPE, "OBJECT", "SEAL 2", "NUMBER 1", "PUT 5", "NUMBER 2", "ADD", "GIVE");
+        Asm.due(R, 9, "ARRAY 0", "DELETE 16", "NUMBER 9", "GIVE");
+        Asm.dueStrict(T, Due.TYPE, "ARRAY 0", "DELETE 16", "NUMBER 9", "GIVE");
+        Asm.dueStrict(R, Due.TYPE, "ARRAY 0", "TRY 4", "DELETE 16", "GIVE", "GIVE");
+        Due.says("put that FAILS and is not STRICT ends RETURNED");
+        ObjectCore x = new ObjectCore();
+        x.seal(0, 0);
+        fails("none", x, 0, 5);
     }
 
     private static void strictOrNot() {
@@ -402,7 +462,8 @@ public final class BoundsOfAccessTest {
             Due.is("put" + what, x.put(pair[0], pair[1], 1, false), Due.REFUSED);
             Due.is("put" + what + ", STRICT", x.put(pair[0], pair[1], 1, true), Due.REFUSED);
             Due.is("remove" + what, x.remove(pair[0], pair[1]), Due.REFUSED);
-            Due.same("nothing changes" + what, Picture.object(x, 0), "OBJECT 0 0 -1 1 1, KEY 5: " + Picture.of(1, 7, 9, U, 0));
+            Due.same("nothing changes" + what, Picture.object(x, 0),
+                    "OBJECT 0 0 -1 1 1, KEY 5: " + Picture.of(1, 7, 9, U, 0));
         }
         ObjectCore x = new ObjectCore();
         for (int object = 3; object < 32; object++) {

@@ -1,3 +1,5 @@
+import java.util.Arrays;
+
 /** Terms on CALLS, and promises 8, 16 and 18: 6 FRAMES, 24 ACTIVATIONS, 32 OBJECTS for NEW, 300 instructions. */
 public final class BoundsOfCallsTest {
     private static final int R = Due.RETURNED;
@@ -13,6 +15,7 @@ public final class BoundsOfCallsTest {
         sixFramesByEachWay();
         sixFramesOneAfterTheOther();
         rangeIsThrownInTheSixth();
+        callPops();
         noFunction();
         typeBeforeRange();
         twentyFourActivations();
@@ -87,8 +90,8 @@ public final class BoundsOfCallsTest {
         Due.says("6 FRAMES are at work");
         ObjectCore x = new ObjectCore();
         // The ARGUMENT is how many FRAMES are to come.
-        int down = Asm.function(x, 0, false, "VAR 0 0", "IF 4", "NUMBER 1", "GIVE", "THIS", "THIS", "VAR 0 0", "NUMBER 1",
-                "SUB", "CALL 1", "GIVE");
+        int down = Asm.function(x, 0, false, "VAR 0 0", "IF 4", "NUMBER 1", "GIVE", "THIS", "THIS", "VAR 0 0",
+                "NUMBER 1", "SUB", "CALL 1", "GIVE");
         for (int more = 0; more <= 5; more++) {
             Due.ends(more + " more", x, x.call(down, Due.object(down), more), R, 1);
             Due.is("FRAMES", x.state(3), more + 1);
@@ -113,6 +116,27 @@ public final class BoundsOfCallsTest {
         ObjectCore x = withItself("TRY 5", "THIS", "THIS", "CALL 0", "GIVE", "GIVE");
         Due.ends("caught in the sixth, given by all", x, x.call(3, Due.object(3), 0), R, Due.RANGE);
         Due.is("begun", x.state(2), 6 * 4 + 6);
+    }
+
+    private static void callPops() {
+        Due.says("pops a ARGUMENTS, the last one first, THIS, and what is called");
+        for (int count = 0; count <= 4; count++) {
+            ObjectCore x = new ObjectCore();
+            int target = Asm.function(x, 0, false, "THIS", "VAR 0 0", "VAR 0 1", "VAR 0 2", "VAR 0 3", "ARRAY 4", "DUP",
+                    "SET 0 0", "SWAP", "PUT 20", "VAR 0 0", "GIVE");
+            String[] start = {"NUMBER 90", "VAR 0 0", "NUMBER 80"};
+            String[] four = {"NUMBER 1", "NUMBER 2", "NUMBER 3", "NUMBER 4"};
+            String[] pushing = Arrays.copyOf(four, count);
+            String[] lines = Asm.join(Asm.join(start, pushing), "CALL " + count, "SET 0 1", "VAR 0 1", "SWAP", "PUT 21",
+                    "VAR 0 1", "GIVE");
+            int caller = Asm.function(x, 1, false, lines);
+            Due.ends("CALL " + count, x, x.call(caller, 0, Due.object(target)), R, Due.object(5));
+            for (int i = 0; i < 4; i++) {
+                Due.is("ARGUMENT " + i, x.own(5, i, 2), i < count ? i + 1 : U);
+            }
+            Due.is("THIS", x.own(5, 20, 2), 80);
+            Due.is("what is below", x.own(5, 21, 2), 90);
+        }
     }
 
     private static void noFunction() {
@@ -318,7 +342,8 @@ public final class BoundsOfCallsTest {
         ObjectCore x = new ObjectCore();
         int empty = x.make(2, 7);
         int maker = Asm.function(x, 0, false, "VAR 0 0", "NEW 0", "GIVE");
-        long[] values = {U, Due.NULL, Due.TYPE, 0, 2, Due.object(0), Due.object(1), Due.object(empty), Due.object(maker)};
+        long[] values = {U, Due.NULL, Due.TYPE, 0, 2, Due.object(0), Due.object(1), Due.object(empty),
+            Due.object(maker)};
         int[] prototypes = {0, 0, 0, 0, 0, 0, 1, empty, maker};
         Due.is("no KIN", x.call(maker, 0, Due.object(empty)), R);
         Due.is("no KIN: 0", x.of(5, 1), 0);
@@ -350,7 +375,8 @@ public final class BoundsOfCallsTest {
             ObjectCore x = new ObjectCore();
             int made = Asm.function(x, 0, false, "VAR 0 0", "GIVE");
             int maker = Asm.function(x, 1, false, "THIS", "VAR 0 0", "NEW 1", "GIVE");
-            Due.ends("NEW gives " + object, x, x.call(maker, Due.object(made), Due.object(object)), R, Due.object(object));
+            long value = Due.object(object);
+            Due.ends("NEW gives " + object, x, x.call(maker, Due.object(made), value), R, value);
             Due.is("the new one is there", x.state(0), 6);
         }
     }
@@ -360,7 +386,7 @@ public final class BoundsOfCallsTest {
         // A loop of five, 57 times: behind 1 + 57 * 5 + 3 = 289 instructions 0 is on the stack.
         String[] loop = {"NUMBER 57", "DUP", "IF 4", "JUMP 7", "NUMBER 1", "SUB", "JUMP 1"};
         String[] rest = new String[instructions - 289];
-        java.util.Arrays.fill(rest, "DONE");
+        Arrays.fill(rest, "DONE");
         return Asm.join(loop, rest);
     }
 
@@ -434,7 +460,7 @@ public final class BoundsOfCallsTest {
         // A HANDLER that has an instruction would begin the 301st; one that has none gives UNDEFINED.
         String[] loop = {"TRY 18", "NUMBER 57", "DUP", "IF 5", "JUMP 8", "NUMBER 1", "SUB", "JUMP 2"};
         String[] rest = new String[9];
-        java.util.Arrays.fill(rest, "DROP");
+        Arrays.fill(rest, "DROP");
         String[] throwing = Asm.join(Asm.join(loop, rest), "THROW");
         Asm.write(x, 0, false, throwing);
         Due.ends("caught", x, x.call(function, 0, 0), R, U);

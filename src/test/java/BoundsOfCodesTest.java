@@ -3,7 +3,8 @@ public final class BoundsOfCodesTest {
     private static final int R = Due.RETURNED;
     private static final int T = Due.THROWN;
     private static final int NO_MATTER = -1;
-    private static final int[] FAR = {Integer.MIN_VALUE, Integer.MIN_VALUE + 1, Integer.MAX_VALUE - 1, Integer.MAX_VALUE};
+    private static final int[] FAR = {Integer.MIN_VALUE, Integer.MIN_VALUE + 1, Integer.MAX_VALUE - 1,
+        Integer.MAX_VALUE};
 
     public static void main(String[] args) {
         codeRefused();
@@ -101,8 +102,8 @@ public final class BoundsOfCodesTest {
     /** The greatest a of each op, in their order. */
     private static int[] greatestOfEach() {
         int none = NO_MATTER;
-        return new int[] {none, 5, none, none, none, 3, 3, none, 31, 31, none, none, 31, 31, none, 4, 7, 4, 4, none, none,
-            24, none, 24, 24, none, none, none, none, none, none, 2};
+        return new int[] {none, 5, none, none, none, 3, 3, none, 31, 31, none, none, 31, 31, none, 4, 7, 4, 4, none,
+            none, 24, none, 24, 24, none, none, none, none, none, none, 2};
     }
 
     private static void addRefusedA() {

@@ -19,6 +19,8 @@ public final class BoundsOfDefineTest {
         made();
         asSaidThen();
         kindChanges();
+        whatMakesAKind();
+        answers();
         defineRefused();
         defineFlags();
         defineValueOnlyIfSaid();
@@ -160,7 +162,8 @@ public final class BoundsOfDefineTest {
         refused("SETTER UNDEFINED", pair(0), y -> y.accessor(0, KEY, F, -1, SETTER));
         refused("GETTER same, SETTER other", pair(0), y -> y.accessor(0, KEY, F, F, GETTER | SETTER));
         refused("GETTER other, SETTER same", pair(0), y -> y.accessor(0, KEY, G, G, GETTER | SETTER));
-        done("both same", pair(0), y -> y.accessor(0, KEY, F, G, GETTER | SETTER), 2, 0, Due.object(F), Due.object(G), 0);
+        done("both same", pair(0), y -> y.accessor(0, KEY, F, G, GETTER | SETTER), 2, 0,
+                Due.object(F), Due.object(G), 0);
         done("not said", pair(0), y -> y.accessor(0, KEY, G, F, 0), 2, 0, Due.object(F), Due.object(G), 0);
         ObjectCore x = bare();
         x.accessor(0, KEY, -1, -1, GETTER);
@@ -170,7 +173,8 @@ public final class BoundsOfDefineTest {
     }
 
     private static void valueOrWritableOther() {
-        Due.says("or it is DATA, neither CONFIGURABLE nor WRITABLE, and WRITABLE is said on, or a VALUE other than it has");
+        Due.says("or it is DATA, neither CONFIGURABLE nor WRITABLE, and WRITABLE is said on,"
+                + " or a VALUE other than it has");
         for (int on = 0; on < 4; on += 2) {
             refused("WRITABLE on", data(on), y -> y.define(0, KEY, 7, SAYS_W | W));
             refused("VALUE other", data(on), y -> y.define(0, KEY, 8, SAYS_VALUE));
@@ -256,7 +260,8 @@ public final class BoundsOfDefineTest {
         done("GETTER", pair(E | C), y -> y.accessor(0, KEY, -1, -1, GETTER), 2, E | C, U, Due.object(G), 0);
         done("SETTER", pair(E | C), y -> y.accessor(0, KEY, -1, -1, SETTER), 2, E | C, Due.object(F), U, 0);
         done("ENUMERABLE", pair(E | C), y -> y.define(0, KEY, 8, SAYS_E), 2, C, Due.object(F), Due.object(G), 0);
-        done("CONFIGURABLE", pair(E | C), y -> y.accessor(0, KEY, -1, -1, SAYS_C), 2, E, Due.object(F), Due.object(G), 0);
+        done("CONFIGURABLE", pair(E | C), y -> y.accessor(0, KEY, -1, -1, SAYS_C), 2, E,
+                Due.object(F), Due.object(G), 0);
     }
 
     private static void kindChanges() {
@@ -281,6 +286,46 @@ public final class BoundsOfDefineTest {
         x.accessor(0, KEY, F, G, GETTER | SETTER);
         done("back to DATA", x, y -> y.define(0, KEY, 7, SAYS_W), 1, E | C, U, U, 0);
         done("on to an ACCESSOR", x, y -> y.accessor(0, KEY, G, G, SETTER), 2, E | C, U, Due.object(G), 0);
+    }
+
+    private static void whatMakesAKind() {
+        Due.says("Saying a VALUE or WRITABLE makes a PROPERTY DATA, saying a GETTER or a SETTER makes it an ACCESSOR");
+        for (int said = 0; said <= ON; said++) {
+            boolean data = (said & (SAYS_VALUE | SAYS_W)) != 0;
+            ObjectCore x = pair(C);
+            Due.is("define " + said, x.define(0, KEY, 7, said), 1);
+            Due.is("of an ACCESSOR, " + said, x.own(0, KEY, 0), data ? 1 : 2);
+            ObjectCore y = bare();
+            Due.is("define of none " + said, y.define(0, KEY, 7, said), 1);
+            Due.is("of none, " + said, y.own(0, KEY, 0), 1);
+        }
+        for (int flags = 0; flags < 64; flags++) {
+            boolean accessor = (flags & (GETTER | SETTER)) != 0;
+            ObjectCore x = data(C);
+            Due.is("accessor " + flags, x.accessor(0, KEY, F, G, flags), 1);
+            Due.is("of DATA, " + flags, x.own(0, KEY, 0), accessor ? 2 : 1);
+            ObjectCore y = bare();
+            Due.is("accessor of none " + flags, y.accessor(0, KEY, F, G, flags), 1);
+            Due.is("of none, " + flags, y.own(0, KEY, 0), accessor ? 2 : 1);
+        }
+    }
+
+    private static void answers() {
+        Due.says("1 if it was done, 0 if it is REFUSED");
+        Due.is("done", data(0).define(0, KEY, 7, SAYS_VALUE), 1);
+        Due.is("not done", data(0).define(0, KEY, 8, SAYS_VALUE), 0);
+        Due.is("accessor done", pair(0).accessor(0, KEY, F, G, GETTER), 1);
+        Due.is("accessor not done", pair(0).accessor(0, KEY, G, G, GETTER), 0);
+        Due.says("FULL if RANGE would be thrown");
+        ObjectCore x = bare();
+        int array = x.make(1, 2);
+        Due.is("17", x.define(array, 16, 17, SAYS_VALUE), Due.FULL);
+        Due.is("-1", x.define(array, 16, -1, SAYS_VALUE), Due.FULL);
+        Due.is("16", x.define(array, 16, 16, SAYS_VALUE), 1);
+        Due.is("0", x.define(array, 16, 0, SAYS_VALUE), 1);
+        Due.is("not said", x.define(array, 16, 17, SAYS_W | W), 1);
+        Due.is("another KEY", x.define(array, 15, 17, SAYS_VALUE), 1);
+        Due.is("another OBJECT", x.define(0, 16, 17, SAYS_VALUE), 1);
     }
 
     private static void defineRefused() {

@@ -4,7 +4,8 @@ public final class BoundsOfFaceTest {
     private static final int GETTER = 1, SETTER = 8;
     private static final int R = Due.RETURNED;
     private static final long U = Due.UNDEFINED;
-    private static final int[] FAR = {Integer.MIN_VALUE, Integer.MIN_VALUE + 1, Integer.MAX_VALUE - 1, Integer.MAX_VALUE};
+    private static final int[] FAR = {Integer.MIN_VALUE, Integer.MIN_VALUE + 1, Integer.MAX_VALUE - 1,
+        Integer.MAX_VALUE};
 
     public static void main(String[] args) {
         constants();
@@ -30,6 +31,7 @@ public final class BoundsOfFaceTest {
         clearAtOnce();
         clearOfAll();
         clearKeepsCodes();
+        fiveHundredAndTwelveCalls();
         Due.end("BoundsOfFaceTest");
     }
 
@@ -463,5 +465,31 @@ public final class BoundsOfFaceTest {
             Due.is("further ones", x.add(code, 7, 0, 0), 5);
             Due.is("five then", x.code(code, false), 5);
         }
+    }
+
+    private static void fiveHundredAndTwelveCalls() {
+        Due.says("An object is used for at most 512 calls after it has been made");
+        ObjectCore x = new ObjectCore();
+        for (int i = 0; i < 255; i++) {
+            Due.is("call " + 2 * i, x.define(i % 3, i % 32, i, ON), 1);
+            Due.is("call " + (2 * i + 1), x.remove(i % 3, i % 32), 1);
+        }
+        Due.is("the 511th", x.define(0, 31, 9, ON), 1);
+        Due.is("the 512th", x.own(0, 31, 4), 0);
+        // The first seven calls write a CODE and make a FUNCTION; each that follows has FRAMES that end.
+        ObjectCore y = new ObjectCore();
+        int deep = Asm.function(y, 0, false, "TRY 4", "THIS", "THIS", "CALL 0", "GIVE");
+        for (int i = 8; i < 512; i++) {
+            y.call(deep, Due.object(deep), i);
+        }
+        Due.is("the 512th call", y.call(deep, Due.object(deep), 0), R);
+        // clear does not wear out, either.
+        ObjectCore z = new ObjectCore();
+        for (int i = 0; i < 255; i++) {
+            z.make(1, 16);
+            z.clear();
+        }
+        Due.is("the 511th, make", z.make(1, 16), 3);
+        Due.is("the 512th, state", z.state(0), 4);
     }
 }

@@ -187,8 +187,8 @@ public final class BoundsOfHandlersTest {
         ObjectCore x = new ObjectCore();
         // The seventh CALL throws RANGE; the first FRAME alone has a HANDLER.
         int deep = Asm.function(x, 0, false, "THIS", "THIS", "CALL 0", "GIVE");
-        int first = Asm.function(x, 1, false, "NUMBER 8", "TRY 6", "VAR 0 0", "VAR 0 0", "CALL 0", "GIVE", "SWAP", "DROP",
-                "GIVE");
+        int first = Asm.function(x, 1, false, "NUMBER 8", "TRY 6", "VAR 0 0", "VAR 0 0", "CALL 0", "GIVE", "SWAP",
+                "DROP", "GIVE");
         Due.ends("caught by the first", x, x.call(first, 0, Due.object(deep)), R, Due.RANGE);
         Due.is("six FRAMES", x.state(3), 6);
         Due.is("no ACTIVATION", x.state(1), 0);

@@ -1,3 +1,5 @@
+import java.util.Arrays;
+
 /** Terms on the stack of a FRAME: empty, with 10 VALUES, and what each instruction leaves on it. */
 public final class BoundsOfStackTest {
     private static final int R = Due.RETURNED;
@@ -65,7 +67,8 @@ public final class BoundsOfStackTest {
         leaves(0, "SET 0 0");
         leaves(0, "NUMBER 1", "SET 0 0");
         leaves(1, "NUMBER 1", "NUMBER 2", "SET 0 3");
-        // Where there is no such ACTIVATION the VALUE is popped, too, and nothing comes of it.
+        Due.says("nothing, if there is none");
+        // Read so: where there is no such ACTIVATION the VALUE is popped, too, and nothing comes of it.
         leaves(0, "SET 1 0");
         leaves(1, "NUMBER 1", "NUMBER 2", "SET 3 3");
         Asm.due(R, ARGUMENT, "NUMBER 2", "SET 1 0", "VAR 0 0", "GIVE");
@@ -167,7 +170,7 @@ public final class BoundsOfStackTest {
         // All ten are there, in their order.
         for (int dropped = 0; dropped < 10; dropped++) {
             String[] drops = new String[dropped];
-            java.util.Arrays.fill(drops, "DROP");
+            Arrays.fill(drops, "DROP");
             Asm.due(R, 9 - dropped, Asm.join(Asm.onto(10, drops), "GIVE"));
         }
         // There is room again where one was popped.
@@ -177,8 +180,8 @@ public final class BoundsOfStackTest {
 
     private static void ontoTen() {
         Due.says("pushing onto 10 throws RANGE instead");
-        String[] pushing = {"NUMBER 1", "SPECIAL 0", "DUP", "VAR 0 0", "VAR 0 3", "VAR 3 0", "THIS", "OBJECT", "ARRAY 0",
-            "FUNCTION 1"};
+        String[] pushing = {"NUMBER 1", "SPECIAL 0", "DUP", "VAR 0 0", "VAR 0 3", "VAR 3 0", "THIS", "OBJECT",
+            "ARRAY 0", "FUNCTION 1"};
         for (String line : pushing) {
             Asm.due(T, Due.RANGE, Asm.onto(10, line, "GIVE"));
             Asm.due(R, U, Asm.onto(9, line));
@@ -322,8 +325,8 @@ public final class BoundsOfStackTest {
     private static void noNumbers() {
         Due.says("TYPE is thrown if one is no NUMBER");
         String[] ops = {"ADD", "SUB", "LESS"};
-        String[] none = {"SPECIAL 0", "SPECIAL 1", "SPECIAL 2", "SPECIAL 3", "SPECIAL 4", "SPECIAL 5", "THIS", "ARRAY 0",
-            "FUNCTION 0"};
+        String[] none = {"SPECIAL 0", "SPECIAL 1", "SPECIAL 2", "SPECIAL 3", "SPECIAL 4", "SPECIAL 5", "THIS",
+            "ARRAY 0", "FUNCTION 0"};
         for (String op : ops) {
             for (String line : none) {
                 Asm.due(T, Due.TYPE, "NUMBER 3", line, op, "GIVE");
@@ -439,6 +442,8 @@ public final class BoundsOfStackTest {
             Due.ends("SEAL " + how, x, x.call(function, Due.object(function), 0), R, Due.object(function));
             Due.is("EXTENSIBLE", x.of(function, 2), 0);
             Due.is("another", x.of(1, 2), 1);
+            Due.ends("SEAL " + how + " of 0", x, x.call(function, Due.object(0), 0), R, Due.object(0));
+            Due.is("OBJECT 0", x.of(0, 2), 0);
         }
     }
 }

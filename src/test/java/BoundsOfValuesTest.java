@@ -76,7 +76,8 @@ public final class BoundsOfValuesTest {
     }
 
     private static void specials() {
-        Due.says("UNDEFINED 2^33, NULL 2^33 + 1, FALSE 2^33 + 2, TRUE 2^33 + 3, the errors TYPE 2^33 + 4 and RANGE 2^33 + 5");
+        Due.says("UNDEFINED 2^33, NULL 2^33 + 1, FALSE 2^33 + 2, TRUE 2^33 + 3,"
+                + " the errors TYPE 2^33 + 4 and RANGE 2^33 + 5");
         for (long value = 1L << 33; value <= (1L << 33) + 5; value++) {
             isValue(FIRST_FREE, value);
         }
