@@ -530,6 +530,14 @@ public final class BoundsOfCallsTest {
         x.add(0, 7, 0, 0);
         Due.is("the others do not matter", x.state(2), 4);
         Due.is("nor for FRAMES", x.state(3), 1);
+        // Three at first, then two: at most three.
+        ObjectCore y = new ObjectCore();
+        Asm.write(y, 1, false, "VAR 0 0", "IF 3", "GIVE", "THIS", "THIS", "CALL 0", "GIVE");
+        int inner = y.make(2, 1);
+        int outer = Asm.function(y, 0, false, "VAR 0 0", "VAR 0 0", "NUMBER 1", "CALL 1", "VAR 0 0", "VAR 0 0",
+                "CALL 0", "GIVE");
+        Due.ends("deep, then not", y, y.call(outer, 0, Due.object(inner)), R, U);
+        Due.is("three at most", y.state(3), 3);
         Due.says("REFUSED for others");
         int[] none = {-1, 4, 5, Integer.MAX_VALUE, Integer.MIN_VALUE};
         for (int what : none) {

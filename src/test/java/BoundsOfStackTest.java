@@ -224,7 +224,7 @@ public final class BoundsOfStackTest {
         Asm.due(R, 8, Asm.onto(9, "DUP", "GIVE"));
         Asm.due(T, Due.RANGE, Asm.onto(10, "DUP", "GIVE"));
         // The first of the two is pushed: ten are there, and no room for RANGE.
-        Asm.due(T, Due.RANGE, Asm.onto(10, "TRY 13", "DUP", "GIVE", "NUMBER 1", "GIVE"));
+        Asm.due(T, Due.RANGE, Asm.onto(10, "TRY 12", "DUP", "GIVE"));
     }
 
     private static void popsBeforeItPushes() {
