@@ -96,6 +96,11 @@ public final class LanguageTest {
         rule(1, isPublic || isPrivate, "private: " + name);
         rule(1, calls.put(name, new TreeSet<>()) == null, "two methods of the name " + name);
         rule(10, method.getParameters().size() <= 7, "parameters of " + name);
+        rule(4, name.equals("<init>") || TYPES.contains(method.getReturnType().toString()), "what " + name + " answers");
+        for (VariableTree parameter : method.getParameters()) {
+            String type = parameter.getType().toString();
+            rule(2, TYPES.contains(type) || isPrivate && ARRAYS.contains(type), "parameter of " + name + ": " + type);
+        }
         long start = trees.getSourcePositions().getStartPosition(unit, method);
         long end = trees.getSourcePositions().getEndPosition(unit, method);
         long lines = unit.getLineMap().getLineNumber(end) - unit.getLineMap().getLineNumber(start) + 1;

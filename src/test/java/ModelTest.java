@@ -1,21 +1,28 @@
 import java.util.ArrayList;
 import java.util.List;
 import java.util.TreeMap;
+import java.util.function.ToLongFunction;
 
-/** Promises 1 to 18: long runs of calls, made by a fixed sequence of numbers, against Model. */
+/**
+ * Promises 1 to 18: long runs of calls, made by a fixed sequence of numbers, against Model. Model alone decides how
+ * a run goes on, so that it can be played again on further objects until all is looked at: an object is promised
+ * for 512 calls only.
+ */
 public final class ModelTest {
-    private static final int RUNS = 1000;
+    private static final int RUNS = 6000;
     private static final int CALLS = 512;
 
-    private final ObjectCore x = new ObjectCore();
+    private record Call(String text, ToLongFunction<ObjectCore> asked, long want) {
+    }
+
     private final Model model = new Model();
-    private final List<String> told = new ArrayList<>();
+    private final List<Call> calls = new ArrayList<>();
+    private final List<Call> looks = new ArrayList<>();
     private final boolean wild;
     private final boolean thrifty;
     private long seed;
-    private boolean wrong;
 
-    /** How often each instruction was added, and each end came, so that no run passes by doing nothing. */
+    /** How often each end came, so that no run passes by doing nothing. */
     private static final TreeMap<String, Integer> seen = new TreeMap<>();
 
     private ModelTest(int run) {
@@ -28,11 +35,9 @@ public final class ModelTest {
         int runs = args.length > 1 ? Integer.parseInt(args[1]) : RUNS;
         for (int run = 0; run < runs; run++) {
             ModelTest test = new ModelTest(run);
+            test.think();
             if (!test.passes()) {
-                System.out.println("run " + run + ":");
-                for (String line : test.told) {
-                    System.out.println("  " + line);
-                }
+                System.out.println("in run " + run);
                 System.exit(1);
             }
         }
@@ -57,29 +62,63 @@ public final class ModelTest {
         return choices[below(choices.length)];
     }
 
-    private void due(String call, long got, long want) {
-        told.add(call + " answered " + got);
-        if (got != want) {
-            wrong = true;
-            told.add("  the model answers " + want);
-        }
+    private void due(String text, long want, ToLongFunction<ObjectCore> asked) {
+        calls.add(new Call(text, asked, want));
+    }
+
+    private void look(String text, long want, ToLongFunction<ObjectCore> asked) {
+        looks.add(new Call(text, asked, want));
     }
 
     private void count(String what) {
         seen.merge(what, 1, Integer::sum);
     }
 
-    private boolean passes() {
+    private void think() {
         writeCodes();
         furnish();
-        for (int i = 0; i < CALLS && !wrong; i++) {
+        int length = calls.size() + below(440 - Math.min(calls.size(), 400));
+        while (calls.size() < length) {
             step();
-            if (i % 16 == 15) {
-                compareAll();
-            }
         }
-        compareAll();
-        return !wrong;
+        lookAtAll();
+    }
+
+    /** Plays the run on as many objects as looking at all of what comes of it takes. */
+    private boolean passes() {
+        int looked = 0;
+        do {
+            ObjectCore x = new ObjectCore();
+            for (int i = 0; i < calls.size(); i++) {
+                if (!holds(x, calls.get(i), i)) {
+                    return false;
+                }
+            }
+            int left = CALLS - calls.size();
+            if (left <= 0) {
+                System.out.println("a run of " + calls.size() + " calls: too many to look at what comes of it");
+                return false;
+            }
+            for (int i = 0; i < left && looked < looks.size(); i++) {
+                if (!holds(x, looks.get(looked), calls.size())) {
+                    return false;
+                }
+                looked++;
+            }
+        } while (looked < looks.size());
+        return true;
+    }
+
+    private boolean holds(ObjectCore x, Call call, int before) {
+        long got = call.asked().applyAsLong(x);
+        if (got == call.want()) {
+            return true;
+        }
+        for (int i = 0; i < before; i++) {
+            System.out.println("  " + calls.get(i).text() + " answered " + calls.get(i).want());
+        }
+        System.out.println("  " + call.text() + " answered " + got + ", the model answers " + call.want());
+        return false;
     }
 
     private void writeCodes() {
@@ -90,11 +129,12 @@ public final class ModelTest {
 
     private void writeCode(int code) {
         boolean strict = below(2) == 0;
-        due("code(" + code + ", " + strict + ")", x.code(code, strict), model.code(code, strict));
+        due("code(" + code + ", " + strict + ")", model.code(code, strict), x -> x.code(code, strict));
         if (below(3) == 0) {
             addNamed(code, "TRY", 8 + below(17), 0);
         }
-        int lines = 2 + below(10);
+        // Short ones where much was written, so that calls are left for what they do.
+        int lines = calls.size() > 200 ? 1 + below(2) : 2 + below(10);
         for (int line = 0; line < lines; line++) {
             writeSome(code);
         }
@@ -102,7 +142,7 @@ public final class ModelTest {
 
     private void add(int code, int op, int a, int b) {
         long want = model.add(code, op, a, b);
-        due("add(" + code + ", " + op + ", " + a + ", " + b + ")", x.add(code, op, a, b), want);
+        due("add(" + code + ", " + op + ", " + a + ", " + b + ")", want, x -> x.add(code, op, a, b));
         count("add " + Math.min(want, 1));
     }
 
@@ -237,32 +277,62 @@ public final class ModelTest {
 
     private void make(int kind, int a) {
         long want = model.make(kind, a);
-        due("make(" + kind + ", " + a + ")", x.make(kind, a), want);
+        due("make(" + kind + ", " + a + ")", want, x -> x.make(kind, a));
         count("make " + Math.min(want, 0));
     }
 
     private void define(int object, int key, long value, int flags) {
         long want = model.define(object, key, value, flags);
-        due("define(" + object + ", " + key + ", " + value + ", " + flags + ")", x.define(object, key, value, flags), want);
+        due("define(" + object + ", " + key + ", " + value + ", " + flags + ")", want,
+                x -> x.define(object, key, value, flags));
         count("define " + want);
     }
 
     private void accessor(int object, int key, int getter, int setter, int flags) {
         long want = model.accessor(object, key, getter, setter, flags);
-        due("accessor(" + object + ", " + key + ", " + getter + ", " + setter + ", " + flags + ")",
-                x.accessor(object, key, getter, setter, flags), want);
+        due("accessor(" + object + ", " + key + ", " + getter + ", " + setter + ", " + flags + ")", want,
+                x -> x.accessor(object, key, getter, setter, flags));
         count("accessor " + want);
     }
 
-    private void ended(String call, String name, int got, int want) {
-        due(call, got, want);
+    private void ended(String text, String name, int want, ToLongFunction<ObjectCore> asked) {
+        due(text, want, asked);
         count(name + " " + want);
-        due("result()", x.result(), model.result());
-        for (int what = 0; what < 4; what++) {
-            due("state(" + what + ")", x.state(what), model.state(what));
-        }
+        due("result()", model.result(), ObjectCore::result);
+        askState(below(4));
         count("FRAMES " + model.state(3));
         count("ACTIVATIONS " + model.state(1));
+    }
+
+    private void askState(int what) {
+        due("state(" + what + ")", model.state(what), x -> x.state(what));
+    }
+
+    private void call(int function, long self, long argument) {
+        int want = model.call(function, self, argument);
+        ended("call(" + function + ", " + self + ", " + argument + ")", "call", want,
+                x -> x.call(function, self, argument));
+    }
+
+    private void get(int object, int key) {
+        int want = model.get(object, key);
+        ended("get(" + object + ", " + key + ")", "get", want, x -> x.get(object, key));
+    }
+
+    private void put(int object, int key, long value, boolean strict) {
+        int want = model.put(object, key, value, strict);
+        ended("put(" + object + ", " + key + ", " + value + ", " + strict + ")", "put", want,
+                x -> x.put(object, key, value, strict));
+    }
+
+    private void remove(int object, int key) {
+        int want = model.remove(object, key);
+        due("remove(" + object + ", " + key + ")", want, x -> x.remove(object, key));
+        count("remove " + want);
+    }
+
+    private void seal(int object, int how) {
+        due("seal(" + object + ", " + how + ")", model.seal(object, how) ? 1 : 0, x -> x.seal(object, how) ? 1 : 0);
     }
 
     private void step() {
@@ -270,28 +340,17 @@ public final class ModelTest {
         int key = anyKey();
         long value = someValue();
         switch (below(16)) {
-            case 0: case 1: case 2: case 3: {
-                int function = below(5) == 0 ? object : someFunction();
-                if (below(3) != 0) {
-                    value = Due.object(someFunction());
-                }
-                long self = below(4) == 0 ? someValue() : Due.object(below(model.state(0)));
-                int want = model.call(function, self, value);
-                ended("call(" + function + ", " + self + ", " + value + ")", "call", x.call(function, self, value), want);
+            case 0: case 1: case 2: case 3:
+                call(below(5) == 0 ? object : someFunction(),
+                        below(4) == 0 ? someValue() : Due.object(below(model.state(0))),
+                        below(3) == 0 ? value : Due.object(someFunction()));
                 break;
-            }
-            case 4: case 5: {
-                int want = model.get(object, key);
-                ended("get(" + object + ", " + key + ")", "get", x.get(object, key), want);
+            case 4: case 5:
+                get(object, key);
                 break;
-            }
-            case 6: case 7: {
-                boolean strict = below(2) == 0;
-                int want = model.put(object, key, value, strict);
-                ended("put(" + object + ", " + key + ", " + value + ", " + strict + ")", "put",
-                        x.put(object, key, value, strict), want);
+            case 6: case 7:
+                put(object, key, value, below(2) == 0);
                 break;
-            }
             case 8: case 9:
                 define(object, key, value, wild && below(16) == 0 ? pick(-1, 128) : pick(127, below(128), 64));
                 break;
@@ -300,25 +359,21 @@ public final class ModelTest {
                         below(4) == 0 ? -1 : wild ? someObject() : someFunction(),
                         wild && below(16) == 0 ? pick(-1, 64) : below(64));
                 break;
-            case 12: {
-                int want = model.remove(object, key);
-                due("remove(" + object + ", " + key + ")", x.remove(object, key), want);
-                count("remove " + want);
+            case 12:
+                remove(object, key);
                 break;
-            }
             case 13:
                 if (below(3) == 0) {
                     make(wild ? below(5) - 1 : below(3), wild ? below(36) - 2 : below(3));
                 } else {
-                    compareOne(object, key, below(7) - 1);
+                    askOne(object, key, below(7) - 1);
                 }
                 break;
             case 14:
                 if (below(6) == 0) {
-                    int how = below(wild ? 5 : 3) - (wild ? 1 : 0);
-                    due("seal(" + object + ", " + how + ")", x.seal(object, how) ? 1 : 0, model.seal(object, how) ? 1 : 0);
+                    seal(object, wild ? below(5) - 1 : below(3));
                 } else {
-                    due("each(" + object + ", " + key + ")", x.each(object, key), model.each(object, key));
+                    due("each(" + object + ", " + key + ")", model.each(object, key), x -> x.each(object, key));
                 }
                 break;
             default:
@@ -331,42 +386,58 @@ public final class ModelTest {
         int which = below(24);
         boolean crowded = !thrifty && model.state(0) > 30 && below(3) == 0;
         if (which == 0 || crowded) {
-            due("clear()", x.clear(), model.clear());
+            due("clear()", model.clear(), ObjectCore::clear);
             furnish();
         } else if (which < 3) {
             writeCode(below(8));
         } else if (which < 5) {
             add(below(10) - 1, below(32), below(5), below(4));
         } else {
-            int what = below(7) - 1;
-            due("state(" + what + ")", x.state(what), model.state(what));
+            askState(below(7) - 1);
         }
     }
 
-    private void compareOne(int object, int key, int what) {
-        due("own(" + object + ", " + key + ", " + what + ")", x.own(object, key, what), model.own(object, key, what));
-        due("of(" + object + ", " + what + ")", x.of(object, what), model.of(object, what));
+    private void askOne(int object, int key, int what) {
+        due("own(" + object + ", " + key + ", " + what + ")", model.own(object, key, what), x -> x.own(object, key, what));
+        due("of(" + object + ", " + what + ")", model.of(object, what), x -> x.of(object, what));
     }
 
-    /** Tells only what differs: it is asked too often to tell all. */
-    private void compareAll() {
-        for (int object = 0; object < model.state(0); object++) {
-            for (int what = 0; what < 5; what++) {
-                for (int key = 0; key < 32; key++) {
-                    if (x.own(object, key, what) != model.own(object, key, what)) {
-                        compareOne(object, key, what);
-                    }
-                }
-                if (x.of(object, what) != model.of(object, what)) {
-                    compareOne(object, 0, what);
-                }
+    private void lookAtAll() {
+        look("result()", model.result(), ObjectCore::result);
+        for (int asked = -1; asked <= 4; asked++) {
+            int what = asked;
+            look("state(" + what + ")", model.state(what), x -> x.state(what));
+        }
+        for (int object = -1; object <= model.state(0); object++) {
+            lookAtOne(object);
+        }
+    }
+
+    private void lookAtOne(int object) {
+        for (int asked = -1; asked <= 4; asked++) {
+            int what = asked;
+            look("of(" + object + ", " + what + ")", model.of(object, what), x -> x.of(object, what));
+        }
+        int any = below(34) - 1;
+        for (int key = -1; key <= 32; key++) {
+            long kind = model.own(object, key, 0);
+            // How many PROPERTIES there are is asked above, so one that is too much cannot hide.
+            if (kind == 1 || kind == 2 || key == any) {
+                lookAtProperty(object, key);
             }
-            for (int k = 0; k < 3; k++) {
-                int key = below(8);
-                if (x.each(object, key) != model.each(object, key)) {
-                    due("each(" + object + ", " + key + ")", x.each(object, key), model.each(object, key));
-                }
-            }
+        }
+        int most = below(6);
+        for (int asked = -1; asked <= most; asked++) {
+            int k = asked;
+            look("each(" + object + ", " + k + ")", model.each(object, k), x -> x.each(object, k));
+        }
+    }
+
+    private void lookAtProperty(int object, int key) {
+        for (int asked = -1; asked <= 5; asked++) {
+            int what = asked;
+            look("own(" + object + ", " + key + ", " + what + ")", model.own(object, key, what),
+                    x -> x.own(object, key, what));
         }
     }
 }
